@@ -30,6 +30,8 @@ public final class FollowsTest {
         table(Check.scale(4, "a=b=c"), "===.", "===.", "===.", "...=");
         table(Check.scale(4, "a=b-c=d"), "==HH", "==HH", "LL==", "LL==");
         table(Check.scale(4, "a+b-c+d"), "=L..", "H=H.", ".L=L", "..H=");
+        table(Check.scale(4, "b+a+c"), "=HL.", "L=L.", "HH=.", "...=");
+        table(Check.scale(4, "d=a", "a+c"), "=.L=", ".=..", "H.=H", "=.L=");
         // What closes only by way of a later sack, and of an earlier one.
         table(Check.scale(5, "e+d", "c+e", "b+c", "a+b"), "=LLLL", "H=LLL", "HH=LL", "HHH=H", "HHHL=");
         table(Check.scale(4, "a=c", "b+d", "c=b"), "===L", "===L", "===L", "HHH=");
@@ -138,6 +140,11 @@ public final class FollowsTest {
         Check.due("pays(-1, 1) of six", x.pays(-1, 1), 594);
         Check.write(x, "a=b=c=d=e=f");
         Check.due("pays(-1, 0) of one group", x.pays(-1, 0), 42);
+        for (int rank = 0; rank < 6; rank++) {
+            x.toll(rank, 0);
+        }
+        Check.due("pays(0, 1) of nothing", x.pays(0, 1), 0);
+        Check.due("pays(-1, 1) of nothing", x.pays(-1, 1), 0);
         x.sacks(3);
         Check.due("pays(3, 0)", x.pays(3, 0), Check.UNKNOWN);
         Check.due("pays(-2, 0)", x.pays(-2, 0), Check.UNKNOWN);

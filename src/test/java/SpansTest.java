@@ -100,6 +100,8 @@ public final class SpansTest {
         spans(x, 100, 100, 80, 120);
         x.loss(0);
         spans(x, 100, 100, 100, 100);
+        x.strike();
+        spans(x, 100, 100, 0, 999);
     }
 
     private static void canNotAllBe() {

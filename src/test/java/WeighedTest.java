@@ -55,6 +55,7 @@ public final class WeighedTest {
     private static void leavesOutside() {
         LastScale x = weighed(1, 2, 3, 4);
         int[] wrong = {-1, -123, 0, 1, 12, 122, 124, 1233, 3333, 43210, 10123, 1234, 4321, 13210,
+            102, 3013, 1213, 1201,
             Integer.MAX_VALUE, Integer.MIN_VALUE};
         for (int order : wrong) {
             Check.due("leaves(" + order + ")", x.leaves(order), Check.OUTSIDE);
