@@ -214,10 +214,11 @@ public final class LastScale {
         Planner planner = plannerFor(groups);
         int lying = lies == -1 ? Planner.EMPTY : relation.groupOf(lies);
         int order = groupOrder(groups);
+        int fewest = planner.fewestLifts(order, lying);
         if (what == 0) {
-            return planner.fewestLifts(order, lying);
+            return fewest;
         }
-        int next = planner.bestFirst(order, lying);
+        int next = planner.firstOf(order, lying, fewest);
         return next == Planner.EMPTY ? NONE : relation.leaderOf(next);
     }
 
@@ -729,8 +730,8 @@ public final class LastScale {
             return fewest;
         }
 
-        private int bestFirst(int order, int lying) {
-            int fewest = fewestLifts(order, lying);
+        /** The first group that can be laid first, so that no more lifts than the fewest are needed. */
+        private int firstOf(int order, int lying, int fewest) {
             if (fewest == 0) {
                 return EMPTY;
             }
@@ -795,10 +796,10 @@ public final class LastScale {
         }
 
         private static int withLess(int costs, int lying, int cost) {
-            if (cost >= costWith(costs, lying)) {
+            int place = lying * COST_BITS;
+            if (cost >= (costs >> place & COST_MASK)) {
                 return costs;
             }
-            int place = lying * COST_BITS;
             return costs & ~(COST_MASK << place) | cost << place;
         }
 
