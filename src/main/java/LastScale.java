@@ -501,6 +501,8 @@ public final class LastScale {
         private final int[] noLess = new int[MOST_SACKS];
         private final int[] ways = new int[1 << MOST_SACKS];
         private int sackCount;
+        /** Bits of the sacks that lead their groups: each group's least sack. */
+        private int leaders;
         private boolean canBe;
 
         /** Reads all sayings of the book but those whose bits are left out. */
@@ -515,6 +517,7 @@ public final class LastScale {
                 }
             }
             close();
+            findLeaders();
             canBe = true;
             for (int i = 0; i < book.sayingCount && canBe; i++) {
                 canBe = (leftOut >> i & 1) == 1 || !contradicts(book.sayings[i]);
@@ -584,28 +587,30 @@ public final class LastScale {
             return count;
         }
 
-        /** A group's leader is its least sack. */
-        private boolean isLeader(int sack) {
-            for (int other = 0; other < sack; other++) {
-                if (isAlike(sack, other)) {
-                    return false;
+        private void findLeaders() {
+            leaders = 0;
+            for (int sack = 0; sack < sackCount; sack++) {
+                if (!followsOneAlike(sack)) {
+                    leaders |= 1 << sack;
                 }
             }
-            return true;
         }
 
-        private int leaders() {
-            int bits = 0;
-            for (int sack = 0; sack < sackCount; sack++) {
-                if (isLeader(sack)) {
-                    bits |= 1 << sack;
+        private boolean followsOneAlike(int sack) {
+            for (int other = 0; other < sack; other++) {
+                if (isAlike(sack, other)) {
+                    return true;
                 }
             }
-            return bits;
+            return false;
+        }
+
+        private boolean isLeader(int sack) {
+            return (leaders >> sack & 1) == 1;
         }
 
         private int groupCount() {
-            return Integer.bitCount(leaders());
+            return Integer.bitCount(leaders);
         }
 
         /** Groups are numbered from 0 on, by their leaders. */
@@ -660,12 +665,11 @@ public final class LastScale {
         }
 
         private int orderCount() {
-            int all = leaders();
             ways[0] = 1;
             for (int first = 1; first < ways.length; first++) {
-                ways[first] = (first & ~all) == 0 ? waysToBegin(first) : 0;
+                ways[first] = (first & ~leaders) == 0 ? waysToBegin(first) : 0;
             }
-            return ways[all];
+            return ways[leaders];
         }
 
         /** In how many orders just these leaders can come ahead of all others. */
