@@ -757,12 +757,13 @@ public final class LastScale {
                 return 0;
             }
             if (found[code] == 0) {
-                found[code] = findCosts(order, depth);
+                found[code] = withDetours(order, costsOfTelling(order, depth));
             }
             return found[code];
         }
 
-        private int findCosts(int order, int depth) {
+        /** A group with no open pair keeps NO_WAY here: from it a detour comes first. */
+        private int costsOfTelling(int order, int depth) {
             int costs = (1 << groups * COST_BITS) - 1;
             for (int group = 1; group < groups; group++) {
                 for (int other = 0; other < group; other++) {
@@ -774,26 +775,20 @@ public final class LastScale {
                     }
                 }
             }
-            return withDetours(order, costs);
+            return costs;
         }
 
         /**
          * Laying a group whose pair is known tells nothing, but another group lies there
-         * then; such lifts form ways through the groups, none longer than there are groups.
+         * then. It could have been laid from any other one, so that one such lift is enough.
          */
         private int withDetours(int order, int told) {
             int costs = told;
-            for (int round = 0; round < groups; round++) {
-                int before = costs;
-                for (int lying = 0; lying < groups; lying++) {
-                    for (int group = 0; group < groups; group++) {
-                        if (group != lying && !isOpen(order, lying, group)) {
-                            costs = withLess(costs, lying, 1 + costWith(costs, group));
-                        }
+            for (int lying = 0; lying < groups; lying++) {
+                for (int group = 0; group < groups; group++) {
+                    if (group != lying && !isOpen(order, lying, group)) {
+                        costs = withLess(costs, lying, 1 + costWith(told, group));
                     }
-                }
-                if (costs == before) {
-                    break;
                 }
             }
             return costs;

@@ -253,6 +253,15 @@ public final class EdgesSpansTest {
         x.known(1, 499, 999);
         span("alike, just so", x, 0, 499, 499);
         span("nothing was said of it", x, 5, 0, 999);
+        for (int sack = 0; sack < 6; sack++) {
+            for (int other = 0; other < sack; other++) {
+                String line = (char) ('a' + sack) + "=" + (char) ('a' + other);
+                LastScale y = Check.scale(6, line);
+                y.known(sack, 500, 500);
+                y.known(other, 501, 501);
+                none("just " + line + " can not be", y);
+            }
+        }
     }
 
     private static void spanNoneGoesLast() {

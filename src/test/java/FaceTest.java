@@ -18,6 +18,7 @@ public final class FaceTest {
         methods(face);
         constructors(face);
         fields(face);
+        inside(face);
         Check.due("NONE", LastScale.NONE, -6);
         Check.due("UNKNOWN", LastScale.UNKNOWN, -1);
         Check.due("OUTSIDE", LastScale.OUTSIDE, -2);
@@ -56,5 +57,22 @@ public final class FaceTest {
             }
         }
         Check.due("fields", names.toString(), "[FULL, NO, NONE, OUTSIDE, STATE, UNKNOWN]");
+    }
+
+    /** Classes inside are static and hidden; no hidden method bears the name of a public one. */
+    private static void inside(Class<?> face) {
+        TreeSet<String> names = new TreeSet<>();
+        for (Method method : face.getDeclaredMethods()) {
+            names.add(method.getName());
+        }
+        for (Class<?> inner : face.getDeclaredClasses()) {
+            int modifiers = inner.getModifiers();
+            boolean hidden = !Modifier.isPublic(modifiers) && !Modifier.isProtected(modifiers);
+            Check.due("hidden and static: " + inner, hidden && Modifier.isStatic(modifiers) ? 1 : 0, 1);
+            for (Method method : inner.getDeclaredMethods()) {
+                Check.due("a name of its own: " + method, names.contains(method.getName()) ? 0 : 1, 1);
+            }
+        }
+        Check.due("names of the class, each once", names.size(), face.getDeclaredMethods().length);
     }
 }
